@@ -281,8 +281,8 @@ final class Model {
         };
     }
 
-    private static final List<String> LINES = List.of("dead N", "lived N", "sources N", "span N", "one yes", "one no",
-        "votes N N", "down N", "theme N N");
+    private static final List<String> LINES = List.of("dead NN", "lived NN", "sources NN", "span NN", "one yes", "one no",
+        "votes NN NN", "down NN", "theme NN NN");
 
     private static boolean isBegun(String line) {
         for (String known : LINES) {
@@ -295,10 +295,10 @@ final class Model {
 
     private static int most(String line) {
         return switch (line) {
-            case "sources N" -> 6;
-            case "votes N", "theme N N" -> 99;
-            case "votes N N", "down N" -> 100;
-            case "theme N" -> 7;
+            case "sources NN" -> 6;
+            case "votes NN", "theme NN NN" -> 99;
+            case "votes NN NN", "down NN" -> 100;
+            case "theme NN" -> 7;
             default -> 999;
         };
     }
@@ -309,7 +309,7 @@ final class Model {
         return -1;
     }
 
-    /** Each line is held as its TOKENS with N for a number, and against the lines that there may be. */
+    /** Each line is held as its TOKENS, NN (which is no TOKEN) for a number, against the lines that there may be. */
     int rules() {
         String text = tape.toString();
         tape.setLength(0);
@@ -322,7 +322,7 @@ final class Model {
         while (m.find()) {
             String token = m.group();
             boolean number = token.matches("[0-9]{1,4}");
-            String longer = (line.isEmpty() ? "" : line + " ") + (number ? "N" : token);
+            String longer = (line.isEmpty() ? "" : line + " ") + (number ? "NN" : token);
             boolean whole = LINES.stream().anyMatch(known -> (known + " ").startsWith(longer + " "))
                 || LINES.stream().anyMatch(known -> (known + " ;").equals(longer));
             if (!whole || !isBegun(longer)) {
@@ -336,7 +336,7 @@ final class Model {
                 }
             }
             boolean first = line.equals(token) && !line.equals("theme");
-            if (first && !told.add(line) || line.equals("theme N") && !told.add("theme" + token)) {
+            if (first && !told.add(line) || line.equals("theme NN") && !told.add("theme" + token)) {
                 return faulty(3, m.start());
             }
             if (token.equals(";")) {

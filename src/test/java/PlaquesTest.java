@@ -9,6 +9,7 @@ public final class PlaquesTest {
         manyWords();
         yearsInWords();
         yearsOfOne();
+        yearsAtTheEnd();
         yearsComeFirst();
         taking();
         doubts();
@@ -94,7 +95,7 @@ public final class PlaquesTest {
         hangs("i".repeat(24) + "\n" + "i".repeat(24), 400, 8, 1);
         hangs("i ".repeat(40), 400, 8, 1);
         hangs("i ".repeat(41), 400, 8, -1);
-        hangs("i " .repeat(40) + "\n\n ", 400, 8, 1);
+        hangs("i ".repeat(40) + "\n\n ", 400, 8, 1);
         hangs("  \n Here \n", 400, 8, 1);
     }
 
@@ -200,6 +201,19 @@ public final class PlaquesTest {
         Check.due("no longer sure", x.hang(0, 400, 8), -5);
         Check.tell(x, "1640");
         Check.due("by the other's paper", x.hang(0, 400, 8), 1);
+    }
+
+    /** What stood on the tape behind its end is gone, and a full tape ends as any other. */
+    private static void yearsAtTheEnd() {
+        HereLived x = granted();
+        x.feed(Check.four("1619", 0), Check.four("1111", 0), 0, 0, 0);
+        x.end(4);
+        Check.due("cut behind four digits", x.hang(0, 400, 8), -5);
+        x.feed(Check.four("1619", 0), Check.four("1111", 0), 0, 0, 0);
+        x.end(3);
+        Check.due("cut behind three", x.hang(0, 400, 8), 1);
+        hangs(" ".repeat(596) + "1619", 400, 8, -5);
+        hangs(" ".repeat(596) + "1620", 400, 8, 1);
     }
 
     private static void yearsComeFirst() {
