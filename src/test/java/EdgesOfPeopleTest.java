@@ -73,7 +73,7 @@ public final class EdgesOfPeopleTest {
     }
 
     private static void personRefused() {
-        Check.says("RANGE: years (death NONE, or not below birth), THEME; FULL.");
+        Check.says("One of the PEOPLE comes: the number; RANGE: years (death NONE, or not below birth), THEME; FULL.");
         HereLived x = new HereLived();
         Check.due("died a year below birth", x.person(1600, 1599, 0), -2);
         Check.due("died in the year of birth", x.person(1600, 1600, 0), 0);
@@ -345,7 +345,8 @@ public final class EdgesOfPeopleTest {
     }
 
     private static void livedFirstAndLast() {
-        Check.says("2: the first SURELY (NONE), 3: the last SURELY (NONE)");
+        Check.says("LIVED in a SITE, what 0: years SURELY, 1: years POSSIBLY, 2: the first SURELY (NONE), 3: the last SURELY"
+            + " (NONE)");
         HereLived x = new HereLived();
         x.site(1600, 1610, 0, 1);
         x.person(1580, 1700, 0);
@@ -360,6 +361,8 @@ public final class EdgesOfPeopleTest {
         x.paper(0, 0, 0, 1, 1663, 1664);
         Check.due("years apart, first", x.lived(0, 0, 2), 1610);
         Check.due("years apart, last", x.lived(0, 0, 3), 1664);
+        Check.due("years surely", x.lived(0, 0, 0), 3);
+        Check.due("years possibly", x.lived(0, 0, 1), 13);
         x.falsify(1, true);
         Check.due("without the first", x.lived(0, 0, 2), 1663);
         x.falsify(2, true);

@@ -455,7 +455,8 @@ public final class EdgesOfPlaquesTest {
     }
 
     private static void downRefused() {
-        Check.says("A PLAQUE that HANGS is voted on (0 .. 99 for taking it down, and against)");
+        Check.says("A PLAQUE that HANGS is voted on (0 .. 99 for taking it down, and against): 4 if it is TAKEN DOWN (of all"
+            + " votes, one at least, down or more in a hundred), else 3; RANGE");
         HereLived x = EdgesOfAskingsTest.everyState();
         for (int a : NO_ASKING) {
             Check.due("down(" + a + ", 1, 0)", x.down(a, 1, 0), -2);

@@ -345,7 +345,8 @@ public final class EdgesOfSitesTest {
     }
 
     private static void renumberCounts() {
-        Check.says("A NUMBERING of a SITE behind the ones that it has");
+        Check.says("A NUMBERING of a SITE behind the ones that it has (number 0: it is gone; the STREET doesn't matter then): how"
+            + " many");
         HereLived x = new HereLived();
         x.site(1600, 1600, 0, 1);
         Check.due("how many", x.renumber(0, 1700, 1700, 0, 2), 2);

@@ -19,6 +19,7 @@ public final class FaceTest {
 
     public static void main(String[] args) throws Exception {
         face();
+        faceOfTheDocument();
         constants();
         nested();
         source();
@@ -52,6 +53,20 @@ public final class FaceTest {
         Constructor<?>[] made = HereLived.class.getDeclaredConstructors();
         Check.that("one constructor", made.length == 1 && made[0].getParameterCount() == 0
             && Modifier.isPublic(made[0].getModifiers()));
+    }
+
+    /** FACE is what the document tells, so that this test shows it if the document changes. */
+    private static void faceOfTheDocument() throws Exception {
+        Path document = Path.of("../shared/DOC.md");
+        if (!Files.exists(document)) {
+            return;
+        }
+        TreeSet<String> told = new TreeSet<>();
+        Matcher calls = Pattern.compile("public ((?:int|long) \\w+\\([^)]*\\));").matcher(Files.readString(document));
+        while (calls.find()) {
+            told.add(calls.group(1).replaceAll("(int|boolean) \\w+(?=[,)])", "$1").replace(", ", ","));
+        }
+        Check.that("the document tells " + told, told.equals(new TreeSet<>(java.util.List.of(FACE))));
     }
 
     private static void constants() throws Exception {
