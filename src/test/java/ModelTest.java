@@ -28,7 +28,7 @@ public final class ModelTest {
             run.m.askings.forEach(a -> hung[a.state]++);
         }
         System.out.println("askings by state: " + java.util.Arrays.toString(hung));
-        Check.that("runs reach every state", hung[0] * hung[1] > 0 && hung[2] > 0 && hung[3] > 0 && hung[4] > 0);
+        Check.that("runs reach every state", hung[0] > 0 && hung[1] > 0 && hung[2] > 0 && hung[3] > 0 && hung[4] > 0);
         Check.end();
     }
 
